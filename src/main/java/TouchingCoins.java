@@ -48,7 +48,7 @@ public final class TouchingCoins {
     private static final int MOST_LISTED_BEND = 2000;
     private static final int MOST_LINK = 100;
 
-    private static final int DAY = 24;
+    private static final int MODULUS = 24;
     // No four numbers by 24, whichever they are, have more than this many fours that swaps make.
     private static final int REMAINDER_FOURS = 3840;
 
@@ -623,7 +623,7 @@ public final class TouchingCoins {
                     at++;
                 }
                 boolean isListed = at < size && rows[BEND][at] == whole;
-                if (!isListed && (seen >> (whole % DAY) & 1) == 1) {
+                if (!isListed && (seen >> (whole % MODULUS) & 1) == 1) {
                     if (passed == i) {
                         return whole;
                     }
@@ -705,7 +705,7 @@ public final class TouchingCoins {
         int gather(Four coins) {
             int first = 0;
             for (int i = 0; i < Four.COINS; i++) {
-                first += WEIGHT[i] * (int) Math.floorMod(coins.bend(i), (long) DAY);
+                first += WEIGHT[i] * (int) Math.floorMod(coins.bend(i), (long) MODULUS);
             }
             end = 0;
             enter(first);
@@ -720,13 +720,13 @@ public final class TouchingCoins {
         }
 
         static int digit(int four, int i) {
-            return four / WEIGHT[i] % DAY;
+            return four / WEIGHT[i] % MODULUS;
         }
 
         static int swapped(int four, int i) {
             int sum = digit(four, 0) + digit(four, 1) + digit(four, 2) + digit(four, 3);
             int old = digit(four, i);
-            return four + WEIGHT[i] * (Math.floorMod(2 * sum - 3 * old, DAY) - old);
+            return four + WEIGHT[i] * (Math.floorMod(2 * sum - 3 * old, MODULUS) - old);
         }
 
         void enter(int four) {

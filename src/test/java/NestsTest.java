@@ -58,6 +58,12 @@ public final class NestsTest {
         Due.due("list 5", x.list(0, 5), 5);
         Due.due("find 6 now", x.find(6), 0);
         Due.due("listed 5 now", x.listed(5, 0), -20000001);
+        int[][] orders = {{1, 0, 2, 3}, {3, 2, 1, 0}, {2, 3, 0, 1}};
+        for (int[] order : orders) {
+            TouchingCoins y = Due.with(Due.ordered(Due.SMALL, order));
+            Due.due("list 3", y.list(0, 3), 5);
+            dueListed(y, -1, 0, 0, 2, -1, 0, 2, 1, 0, 3, 0, -2, 3, 0, 2);
+        }
     }
 
     private static void listUnderTheRoot() {
@@ -181,6 +187,15 @@ public final class NestsTest {
             Due.due("left -1", x.left(-1), -1);
             Due.due("left low", x.left(LOW), -1);
         }
+        // From 1 on: 1 and 0 by 24 are seen there, and it has no coin of bend 1.
+        TouchingCoins from1 = Due.with(new int[] {-8, 9, 72, 73, 0, 0, 0, -2, 1, -1, -17, -17});
+        Due.due("0 and 1 are seen", from1.seen(0) & 3, 3);
+        Due.due("list to 24", from1.list(0, 24), 2);
+        int[] left = {1, 4, 12, 16, 24};
+        for (int i = 0; i < left.length; i++) {
+            Due.due("left from 1", from1.left(i), left[i]);
+        }
+        Due.due("no more to 24", from1.left(5), -3);
         // Up to the bend itself: 18 by 24 is seen there, and no coin of the nest has it.
         TouchingCoins wide = Due.with(Due.WIDE);
         wide.list(0, 17);
@@ -201,6 +216,8 @@ public final class NestsTest {
             int up = x.swap(0, 1);
             Due.due("seen of a swap", x.seen(up), x.seen(0));
             Due.due("seen moved", Due.with(Due.moved(four, 3, 9)).seen(0), x.seen(0));
+            Due.due("the same again", x.seen(Due.quad(x, four)), x.seen(0));
+            Due.due("another", x.seen(Due.quad(x, Due.SMALL)), 8702028);
             Due.due("seen ordered", Due.with(Due.ordered(four, 2, 3, 1, 0)).seen(0), x.seen(0));
         }
     }

@@ -101,6 +101,7 @@ public final class QuadsTest {
         Due.due("all by 2", Due.quad(x, -2, 4, 4, 6, 0, 2, -2, 0, 0, 0, 0, 4), -19);
         Due.due("all by 3", Due.quad(x, -3, 6, 6, 9, 0, 0, 0, 0, 0, 0, 0, 0), -19);
         Due.due("all by 5000", Due.quad(x, -5000, 10000, 10000, 15000, 0, 0, 0, 0, 0, 0, 0, 0), -19);
+        Due.due("bends alone count", Due.quad(x, -2, 4, 4, 6, 1, 1, 1, 1, 1, 1, 1, 1), -19);
         Due.due("three by 3", Due.quad(x, -3, 6, 7, 6, 0, 0, 0, 0, 0, 0, 0, 0), -17);
         Due.due("none touch", Due.quad(x, -1, 2, 2, 3, 0, 0, 0, 0, 0, 0, 0, 0), -20);
         Due.due("none came", x.count(0), 0);
@@ -294,7 +295,10 @@ public final class QuadsTest {
         Due.due("small", Due.quad(x, Due.SMALL), 4);
         Due.due("up", x.swap(1, 2), 5);
         Due.due("other up", x.swap(3, 0), 6);
-        int[] group = {0, 0, 0, 1, 2, 0, 1};
+        // Its x of coin 0 is the bend of coin 0, its x of coin 1 that of coin 3.
+        Due.due("moved by 1", Due.quad(x, Due.moved(Due.SMALL, 1, 0)), 7);
+        Due.due("a place like a bend", x.coin(7, 0, 1), x.coin(7, 0, 0));
+        int[] group = {0, 0, 0, 1, 2, 0, 1, 2};
         for (int q = 0; q < group.length; q++) {
             for (int r = 0; r < group.length; r++) {
                 Due.due("same " + q + " " + r, x.same(q, r), group[q] == group[r] ? 1 : 0);
