@@ -104,6 +104,11 @@ public final class NestsTest {
         Due.due("still 240", x.count(1), 240);
         Due.due("still to 785", x.count(2), 785);
         for (int i = 1; i < 240; i++) {
+            if (i % 60 == 0) {
+                // An object is used for 512 calls at most.
+                x = Due.with(Due.UNLIKE);
+                x.list(0, 785);
+            }
             Due.due("in order", comesBehind(x, i) ? 1 : 0, 1);
         }
         TouchingCoins y = Due.with(new int[] {-14, 19, 54, 55, 2, -3, -6, -5, 5, -7, -17, -19});
