@@ -214,6 +214,7 @@ public final class NestEdgesTest {
         Due.due("240 again", y.list(0, 1953), 240);
     }
 
+    // "TOO MANY: there are more than 240": some thousands of them
     private static void moreThanTwoHundredAndFortyAtOnce() {
         for (int[] four : new int[][] {Due.SMALL, Due.WIDE, Due.UNLIKE}) {
             TouchingCoins x = Due.with(four);
@@ -284,6 +285,7 @@ public final class NestEdgesTest {
         Due.due("count 2", x.count(2), 18);
     }
 
+    // "MANY .. (the list that there is stays)": there is none yet
     private static void withoutAListManyLeavesNone() {
         TouchingCoins x = Due.with(Due.SMALL);
         Due.due("many", x.list(0, 2000), -4);
@@ -664,6 +666,7 @@ public final class NestEdgesTest {
         Due.due("quad", x.chain(1, 1, 2, 100, 0), BAD);
     }
 
+    // THE CHAIN tells, and makes no QUADS and no list
     private static void chainChangesNothing() {
         TouchingCoins x = Due.with(Due.UNLIKE);
         x.list(0, 11);
@@ -708,6 +711,7 @@ public final class NestEdgesTest {
         Due.due("bend", x.count(2), 0);
     }
 
+    // "1 COINS of the list, 2 the BEND": of the latest, a shorter one too
     private static void countAfterAList() {
         TouchingCoins x = Due.with(Due.SMALL);
         for (int most : new int[] {1, 2, 3, 2, 1}) {
