@@ -89,6 +89,9 @@ public final class ModelTest {
 
     private void fillAndRead() {
         int[] four = FOURS[any(FOURS.length)];
+        if (any(3) == 0) {
+            four = grown(four);
+        }
         if (any(2) == 0) {
             int far = any(3) == 0 ? 20000 : 40;
             four = Due.moved(four, any(far) - far / 2, any(far) - far / 2);
@@ -107,6 +110,61 @@ public final class ModelTest {
             due("put " + v, bench.put(r, at + i, v), model.put(r, at + i, v));
         }
         due("quad", bench.quad(r, at), model.quad(r, at));
+    }
+
+    /** A four of some other nest: some coins swapped, and at some the plane turned inside out. */
+    private int[] grown(int[] four) {
+        int[] made = four.clone();
+        for (int moves = any(8); moves > 0 && greatestOf(made) < 30000; moves--) {
+            int i = any(4);
+            if (any(2) == 0) {
+                swapIn(made, i);
+            } else {
+                turnInsideOut(made, i);
+            }
+        }
+        // Down by some steps, as most of them stand far above their root.
+        for (int steps = any(12); steps > 0; steps--) {
+            int i = 0;
+            for (int j = 1; j < 4; j++) {
+                i = made[j] > made[i] ? j : i;
+            }
+            int[] before = made.clone();
+            swapIn(made, i);
+            if (made[i] >= before[i]) {
+                return before;
+            }
+        }
+        return made;
+    }
+
+    private static int greatestOf(int[] four) {
+        int greatest = 0;
+        for (int v : four) {
+            greatest = Math.max(greatest, Math.abs(v));
+        }
+        return greatest;
+    }
+
+    private static void swapIn(int[] four, int i) {
+        for (int w = 0; w < 12; w += 4) {
+            four[w + i] = 2 * (four[w] + four[w + 1] + four[w + 2] + four[w + 3]) - 3 * four[w + i];
+        }
+    }
+
+    /** Coin i becomes the outer one of what lay beside it (or its inside, of what it held). */
+    private static void turnInsideOut(int[] four, int i) {
+        int sum = 0;
+        for (int j = 0; j < 4; j++) {
+            sum += j == i ? -four[j] : four[j] + 2 * four[i];
+        }
+        int sign = sum < 0 ? -1 : 1;
+        for (int w = 0; w < 12; w += 4) {
+            int turned = four[w + i];
+            for (int j = 0; j < 4; j++) {
+                four[w + j] = sign * (j == i ? -turned : four[w + j] + 2 * turned);
+            }
+        }
     }
 
     private void bagCall() {
